@@ -464,39 +464,27 @@ public final class SkyCuts {
             }
             start = at;
             value = 0;
-            if (at >= end) {
-                kind = END;
-            } else if (isDigit(bytes[at])) {
-                kind = NUMBER;
-                passDigits();
-            } else if (words && isLetter(bytes[at])) {
-                kind = WORD;
-                passLetters();
-            } else {
-                kind = bytes[at];
+            kind = at < end ? kindOf(bytes[at]) : END;
+            if (kind == NUMBER) {
+                while (at < end && kindOf(bytes[at]) == NUMBER) {
+                    value = Math.min(HUGE, value * 10 + bytes[at] - '0');
+                    at++;
+                }
+            } else if (kind == WORD) {
+                while (at < end && kindOf(bytes[at]) == WORD) {
+                    at++;
+                }
+            } else if (kind != END) {
                 at++;
             }
         }
 
-        private void passDigits() {
-            while (at < end && isDigit(bytes[at])) {
-                value = Math.min(HUGE, value * 10 + bytes[at] - '0');
-                at++;
+        /** A sign that is neither of a number nor of a word is its own kind. */
+        private int kindOf(int sign) {
+            if (sign >= '0' && sign <= '9') {
+                return NUMBER;
             }
-        }
-
-        private void passLetters() {
-            while (at < end && isLetter(bytes[at])) {
-                at++;
-            }
-        }
-
-        private static boolean isDigit(int sign) {
-            return sign >= '0' && sign <= '9';
-        }
-
-        private static boolean isLetter(int sign) {
-            return sign >= 'a' && sign <= 'z';
+            return words && sign >= 'a' && sign <= 'z' ? WORD : sign;
         }
 
         boolean says(String word) {
@@ -527,7 +515,7 @@ public final class SkyCuts {
         static final int COUPLES = 66;
         private static final int GOES = 7;
         private static final int ALONE = 6;
-        private static final int STEP_KINDS = 5;
+        static final int STEP_KINDS = 5;
 
         int count;
         final int[] cells = new int[STREAMS * WAY_CELLS];
@@ -660,10 +648,7 @@ public final class SkyCuts {
         void setWay(int stream, int[] row, int from, int size) {
             System.arraycopy(row, from, cells, stream * WAY_CELLS, size);
             sizes[stream] = size;
-            Arrays.fill(goMasks, stream * GOES * 2, (stream + 1) * GOES * 2, 0L);
-            Arrays.fill(steps, stream * STEP_KINDS, (stream + 1) * STEP_KINDS, 0L);
-            masks[stream * 2] = 0L;
-            masks[stream * 2 + 1] = 0L;
+            wipe(stream);
             int go = ALONE;
             for (int i = 0; i < size; i++) {
                 int cell = row[from + i];
@@ -674,6 +659,17 @@ public final class SkyCuts {
                 long bit = 1L << (cell & 63);
                 masks[stream * 2 + cell / LAYER] |= bit;
                 goMasks[(stream * GOES + go) * 2 + cell / LAYER] |= bit;
+            }
+        }
+
+        private void wipe(int stream) {
+            masks[stream * 2] = 0L;
+            masks[stream * 2 + 1] = 0L;
+            for (int i = 0; i < GOES * 2; i++) {
+                goMasks[stream * GOES * 2 + i] = 0L;
+            }
+            for (int i = 0; i < STEP_KINDS; i++) {
+                steps[stream * STEP_KINDS + i] = 0L;
             }
         }
 
@@ -720,7 +716,9 @@ public final class SkyCuts {
         }
 
         void setCounts(int stream, int from, int to, int v) {
-            Arrays.fill(counts, stream * QUARTERS + from, stream * QUARTERS + to + 1, v);
+            for (int q = from; q <= to; q++) {
+                counts[stream * QUARTERS + q] = v;
+            }
             retell(stream);
         }
 
@@ -820,11 +818,17 @@ public final class SkyCuts {
     private static final class Ear {
         final Streams air;
         final Rules book;
-        final boolean[] visits = new boolean[STREAMS];
+        // The streams that come to the set, and of each its steps out of it, within it, and up or down in it.
+        int visitors;
+        final int[] visiting = new int[STREAMS];
         final int[] overs = new int[STREAMS];
         final int[] inner = new int[STREAMS];
         final int[] climbs = new int[STREAMS];
-        final int[] meetings = new int[Streams.COUPLES];
+        // Each two streams that meet in the set without going alike, and in how many of its cells.
+        int meetings;
+        final int[] firsts = new int[Streams.COUPLES];
+        final int[] seconds = new int[Streams.COUPLES];
+        final int[] often = new int[Streams.COUPLES];
         // ways, cross, over, climb, cells, low, pieces
         final int[] heard = new int[Rules.NAMES];
         int peakQuarter;
@@ -839,33 +843,43 @@ public final class SkyCuts {
             heard[4] = Long.bitCount(lo) + Long.bitCount(hi);
             heard[5] = Long.bitCount(lo);
             heard[6] = pieces;
+            visitors = 0;
             for (int s = 0; s < air.count; s++) {
-                visits[s] = (air.masks[s * 2] & lo | air.masks[s * 2 + 1] & hi) != 0L;
-                overs[s] = 0;
-                inner[s] = 0;
-                climbs[s] = 0;
-                if (visits[s]) {
+                if ((air.masks[s * 2] & lo | air.masks[s * 2 + 1] & hi) != 0L) {
+                    visiting[visitors] = s;
                     followSteps(s, lo, hi);
+                    visitors++;
                 }
             }
+            meetings = 0;
             for (int c = 0; c < air.coupleCount; c++) {
-                meetings[c] = Long.bitCount(air.meets[c * 2] & lo) + Long.bitCount(air.meets[c * 2 + 1] & hi);
+                int cells = Long.bitCount(air.meets[c * 2] & lo) + Long.bitCount(air.meets[c * 2 + 1] & hi);
+                if (cells > 0) {
+                    firsts[meetings] = air.couples[c] / STREAMS;
+                    seconds[meetings] = air.couples[c] % STREAMS;
+                    often[meetings] = cells;
+                    meetings++;
+                }
             }
         }
 
-        private void followSteps(int s, long lo, long hi) {
-            followKind(s, air.steps[s * 5], lo, lo >>> 1);
-            followKind(s, air.steps[s * 5 + 1], hi, hi >>> 1);
-            followKind(s, air.steps[s * 5 + 2], lo, lo >>> 8);
-            followKind(s, air.steps[s * 5 + 3], hi, hi >>> 8);
-            followKind(s, air.steps[s * 5 + 4], lo, hi);
-            climbs[s] = Long.bitCount(air.steps[s * 5 + 4] & lo & hi);
+        private void followSteps(int stream, long lo, long hi) {
+            overs[visitors] = 0;
+            inner[visitors] = 0;
+            int at = stream * Streams.STEP_KINDS;
+            followKind(air.steps[at], lo, lo >>> 1);
+            followKind(air.steps[at + 1], hi, hi >>> 1);
+            followKind(air.steps[at + 2], lo, lo >>> 8);
+            followKind(air.steps[at + 3], hi, hi >>> 8);
+            int flat = inner[visitors];
+            followKind(air.steps[at + 4], lo, hi);
+            climbs[visitors] = inner[visitors] - flat;
         }
 
-        private void followKind(int s, long steps, long here, long there) {
+        private void followKind(long steps, long here, long there) {
             if (steps != 0L) {
-                overs[s] += Long.bitCount(steps & (here ^ there));
-                inner[s] += Long.bitCount(steps & here & there);
+                overs[visitors] += Long.bitCount(steps & (here ^ there));
+                inner[visitors] += Long.bitCount(steps & here & there);
             }
         }
 
@@ -876,19 +890,15 @@ public final class SkyCuts {
             int cross = 0;
             int over = 0;
             int climb = 0;
-            for (int s = 0; s < air.count; s++) {
-                if (visits[s] && s != without) {
-                    int most = air.mosts[row + s];
-                    ways += most;
-                    over += most * overs[s];
-                    climb += most * climbs[s];
-                }
+            for (int i = 0; i < visitors; i++) {
+                int most = visiting[i] == without ? 0 : air.mosts[row + visiting[i]];
+                ways += most;
+                over += most * overs[i];
+                climb += most * climbs[i];
             }
-            for (int c = 0; c < air.coupleCount; c++) {
-                int a = air.couples[c] / STREAMS;
-                int b = air.couples[c] % STREAMS;
-                if (meetings[c] != 0 && a != without && b != without) {
-                    cross += meetings[c] * Math.min(air.mosts[row + a], air.mosts[row + b]);
+            for (int i = 0; i < meetings; i++) {
+                if (firsts[i] != without && seconds[i] != without) {
+                    cross += often[i] * Math.min(air.mosts[row + firsts[i]], air.mosts[row + seconds[i]]);
                 }
             }
             heard[0] = ways;
@@ -899,7 +909,7 @@ public final class SkyCuts {
 
         int loadAt(int quarter, int without) {
             hear(quarter, without);
-            return book.load(heard);
+            return book.work(book.loadClause, heard);
         }
 
         int findPeak() {
@@ -920,16 +930,16 @@ public final class SkyCuts {
         /** The counts of all steps between two cells of the set. */
         int keptCounts() {
             int sum = 0;
-            for (int s = 0; s < air.count; s++) {
-                sum += air.totals[s] * inner[s];
+            for (int i = 0; i < visitors; i++) {
+                sum += air.totals[visiting[i]] * inner[i];
             }
             return sum;
         }
 
         int overInAll() {
             int sum = 0;
-            for (int s = 0; s < air.count; s++) {
-                sum += air.mostTotals[s] * overs[s];
+            for (int i = 0; i < visitors; i++) {
+                sum += air.mostTotals[visiting[i]] * overs[i];
             }
             return sum;
         }
@@ -1218,10 +1228,6 @@ public final class SkyCuts {
             }
         }
 
-        int load(int[] heard) {
-            return loadClause == NONE ? heard[0] + 2 * heard[1] + heard[2] : work(loadClause, heard);
-        }
-
         boolean joinsHold(int[] heard) {
             for (int i = 0; i < clauses; i++) {
                 if ((joinBits >> i & 1) != 0 && work(i, heard) == 0) {
@@ -1231,7 +1237,11 @@ public final class SkyCuts {
             return true;
         }
 
-        private int work(int clause, int[] heard) {
+        /** The value of a clause (a test that holds is 1); NONE is the load of rules without one. */
+        int work(int clause, int[] heard) {
+            if (clause == NONE) {
+                return heard[0] + 2 * heard[1] + heard[2];
+            }
             int depth = 0;
             for (int i = clause > 0 ? ends[clause - 1] : 0; i < ends[clause]; i++) {
                 int code = codes[i];
@@ -1497,7 +1507,14 @@ public final class SkyCuts {
             if (parting.hasCells(old) && weigh(old)) {
                 for (int p = 0; p < PIECES; p++) {
                     if ((others >> p & 1) != 0) {
-                        tryPiece(cell, p);
+                        int thatPeak = peaks[p];
+                        int thatKept = kept[p];
+                        parting.put(cell, p);
+                        if (weigh(p)) {
+                            compare(cell, p, priceNow());
+                        }
+                        peaks[p] = thatPeak;
+                        kept[p] = thatKept;
                     }
                 }
             }
@@ -1506,21 +1523,12 @@ public final class SkyCuts {
             kept[old] = oldKept;
         }
 
-        private void tryPiece(int cell, int piece) {
-            int oldPeak = peaks[piece];
-            int oldKept = kept[piece];
-            parting.put(cell, piece);
-            if (weigh(piece)) {
-                int price = priceNow();
-                if (price < bestPrice) {
-                    bestPrice = price;
-                    bestCell = cell;
-                    bestPiece = piece;
-                }
+        private void compare(int cell, int piece, int price) {
+            if (price < bestPrice) {
+                bestPrice = price;
+                bestCell = cell;
+                bestPiece = piece;
             }
-            parting.put(cell, NONE);
-            peaks[piece] = oldPeak;
-            kept[piece] = oldKept;
         }
 
         /** Takes a piece's peak and kept counts as it is now; false if it is not whole, or full. */
@@ -1687,7 +1695,9 @@ public final class SkyCuts {
         /** Finds what a configuration needs, and in which quarters it can be. */
         void judge(int c) {
             needs[c] = 0;
-            Arrays.fill(can, c * QUARTERS, (c + 1) * QUARTERS, true);
+            for (int q = 0; q < QUARTERS; q++) {
+                can[c * QUARTERS + q] = true;
+            }
             for (int group = 0; group < PIECES; group++) {
                 long lo = 0L;
                 long hi = 0L;
@@ -1726,7 +1736,8 @@ public final class SkyCuts {
                 if (parting.hasCells(p)) {
                     ear.listen(parting.lo[p], parting.hi[p], 1);
                     for (int q = 0; q < QUARTERS; q++) {
-                        loads[q] += ear.loadAt(q, NONE);
+                        int twin = air.twins[q];
+                        loads[q] = twin == q ? loads[q] + ear.loadAt(q, NONE) : loads[twin];
                     }
                 }
             }
@@ -2044,7 +2055,7 @@ public final class SkyCuts {
             far[cell] = 0;
             queue[0] = cell;
             int tail = 1;
-            for (int head = 0; head < tail; head++) {
+            for (int head = 0; head < tail && head < CELLS; head++) {
                 for (int go = 0; go < 6; go++) {
                     int next = Streams.stepFrom(queue[head], go);
                     if (next != NONE && far[next] == NONE && !isShut(next) && tail < CELLS) {
