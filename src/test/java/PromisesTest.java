@@ -211,6 +211,13 @@ public final class PromisesTest {
         due("stream 100", x.stream(100), -9);
         due("the tape", x.count(9), 0);
         illegal("stream 1", () -> x.stream(1));
+        SkyCuts y = new SkyCuts();
+        feedText(y, "0r34");
+        due("a number cut by n", y.stream(3), 0);
+        due("its last cell", y.way(0, 3), 3);
+        feedText(y, "12");
+        due("a number cut by n", y.stream(1), 1);
+        due("its cell", y.way(1, 0), 1);
     }
 
     private static void rules() {
@@ -234,6 +241,9 @@ public final class PromisesTest {
         faultyRules("load ways", 1, 9);
         faultyRules("load ways 1;", 1, 10);
         faultyRules("load wayss;", 1, 5);
+        faultyRules("load waysz;", 1, 5);
+        faultyRules("load xays;", 1, 5);
+        faultyRules("load way;", 1, 5);
         faultyRules("load not 1 < 2;", 1, 5);
         faultyRules("load [1];", 1, 5);
         faultyRules("load 1 < 2;", 1, 7);
@@ -263,6 +273,7 @@ public final class PromisesTest {
         faultyRules("join [[[[[[[1<2]]]]]]];", 3, 11);
         rulesOnTape();
         rulesByValue();
+        joins();
     }
 
     private static void rulesOnTape() {
@@ -274,6 +285,11 @@ public final class PromisesTest {
         due("rules", x.rules(7), 1);
         due("the tape", x.count(9), 0);
         due("load", x.hears(0, 0, 4), 5);
+        feedText(x, "load ways;");
+        due("a word cut by n", x.rules(8), -9);
+        feedText(x, "load 12;");
+        due("a number cut by n", x.rules(6), -9);
+        due("its place", x.fault(), 6);
         due("rules", x.rules(0), 0);
         due("load", x.hears(0, 0, 4), 0);
     }
@@ -300,6 +316,47 @@ public final class PromisesTest {
         due("most", loadBy("load most(3, least(9, 8));"), 8);
         due("wraps", loadBy("load 999 * 999 * 999 * 999;"), 999 * 999 * 999 * 999);
         due("least by minus one", loadBy("load (0 - 512 * 512 * 512 * 16) / (0 - 1);"), Integer.MIN_VALUE);
+    }
+
+    private static void joinsBy(String test, boolean want) {
+        SkyCuts x = twoPairs();
+        x.configure(0);
+        rules(x, "join " + test + ";");
+        due("join " + test, x.pairs(1, 0), want ? 1 : -1);
+    }
+
+    private static void joins() {
+        joinsBy("1 < 2", true);
+        joinsBy("1 < 1", false);
+        joinsBy("2 < 1", false);
+        joinsBy("2 > 1", true);
+        joinsBy("1 > 1", false);
+        joinsBy("1 > 2", false);
+        joinsBy("1 = 1", true);
+        joinsBy("1 = 2", false);
+        joinsBy("2 = 1", false);
+        joinsBy("not 1 = 2", true);
+        joinsBy("not 1 = 1", false);
+        joinsBy("not not 1 = 1", true);
+        joinsBy("1 = 1 and 1 = 1", true);
+        joinsBy("1 = 1 and 1 = 2", false);
+        joinsBy("1 = 2 and 1 = 1", false);
+        joinsBy("1 = 1 or 1 = 2", true);
+        joinsBy("1 = 2 or 1 = 1", true);
+        joinsBy("1 = 2 or 1 = 2", false);
+        joinsBy("1 = 1 or 1 = 1 and 1 = 2", true);
+        joinsBy("[1 = 1 or 1 = 1] and 1 = 2", false);
+        joinsBy("not 1 = 1 or 1 = 1", true);
+        joinsBy("not [1 = 1 or 1 = 1]", false);
+        joinsBy("1 = 2 and 1 = 2 or not 1 + 1 * 2 < 3 and 7 / 2 = 3", true);
+        faultyRules("join 1 < 2 or;", 1, 13);
+        faultyRules("join 1 < 2 and 3;", 1, 16);
+        faultyRules("join not;", 1, 8);
+        faultyRules("join [];", 1, 6);
+        faultyRules("join 1 <;", 1, 8);
+        faultyRules("load 2 *;", 1, 8);
+        faultyRules("load 2 * 1000;", 2, 9);
+        faultyRules("load least(1,);", 1, 13);
     }
 
     private static void fault() {
@@ -481,6 +538,51 @@ public final class PromisesTest {
         illegal("what -1", () -> x.hears(0, 0, -1));
         illegal("what 5", () -> x.hears(0, 0, 5));
         hearsTheLastCell();
+        hearsByGo();
+    }
+
+    /** Two streams by one cell, each in one of four goes, in both layers; and its cell as a piece of its own. */
+    private static void hearsByGo() {
+        String[][] ways = {{"26r2", "28l2", "19d2", "35u2"}, {"90r2", "92l2", "83d2", "99u2"}};
+        for (int z = 0; z < 2; z++) {
+            for (int a = 0; a < 4; a++) {
+                for (int b = 0; b < 4; b++) {
+                    SkyCuts x = new SkyCuts();
+                    stream(x, ways[z][a]);
+                    stream(x, ways[z][b]);
+                    x.flow(0, 0, 0, 1);
+                    x.flow(1, 0, 0, 1);
+                    int like = a == b ? 0 : 1;
+                    String name = ways[z][a] + " and " + ways[z][b];
+                    hearsAll(x, 0, 0, 2, a / 2 == b / 2 ? 3 * like : 1, 0, 0, 2 + (a / 2 == b / 2 ? 6 * like : 2));
+                    due(name + " at edge", x.edge(0), 0);
+                    x.assign(27 + 64 * z, 1);
+                    hearsAll(x, 1, 0, 2, like, 4, 0, 6 + 2 * like);
+                    due(name + ", over", x.hears(0, 0, 2), 4);
+                    due(name + " at edge", x.edge(1), like);
+                    due(name + " short", x.shorts(1), 0);
+                    x.length(2);
+                    due(name + " short", x.shorts(1), 3);
+                    x.length(1);
+                    due(name + " short", x.shorts(1), 0);
+                }
+            }
+        }
+        SkyCuts y = new SkyCuts();
+        String[] climbs = {"27c", "91s", "26r2", "90r2"};
+        for (int s = 0; s < 4; s++) {
+            stream(y, climbs[s]);
+        }
+        y.flow(0, 0, 1, 1);
+        y.flow(1, 0, 0, 1);
+        y.flow(2, 1, 1, 1);
+        y.flow(3, 1, 1, 1);
+        hearsAll(y, 0, 0, 2, 2, 0, 2, 6);
+        hearsAll(y, 0, 1, 3, 2, 0, 1, 7);
+        y.assign(91, 1);
+        hearsAll(y, 0, 0, 2, 1, 2, 0, 6);
+        hearsAll(y, 1, 0, 2, 1, 2, 0, 6);
+        hearsAll(y, 1, 1, 2, 1, 3, 0, 7);
     }
 
     /** In its last cell a stream goes as it came. */
@@ -647,6 +749,10 @@ public final class PromisesTest {
         due("full in a quarter without ways", x.holds(), false);
         x.limit(0, 41);
         due("one without cells is never full", x.holds(), true);
+        rules(x, "load pieces * 41;");
+        due("a piece is one", x.holds(), true);
+        x.limit(0, 40);
+        due("a piece is one", x.holds(), false);
     }
 
     private static void cost() {
@@ -715,6 +821,31 @@ public final class PromisesTest {
         due("the old one may not fall apart", y.better(0), 4);
         y.assign(12, 1);
         due("neither may fall apart", y.better(2), -1);
+        SkyCuts w = new SkyCuts();
+        w.paint(0, 63, -1);
+        w.paint(64, 127, -1);
+        w.paint(64, 71, 1);
+        w.assign(127, 2);
+        rules(w, "load cells;");
+        due("no cell of another piece is beside", w.better(0), -1);
+        w.assign(72, 2);
+        w.assign(127, -1);
+        w.assign(64, 3);
+        w.assign(65, 3);
+        // Peaks 6, 1 and 2: cell 64 to piece 2 would only turn the lesser two round.
+        due("the cell", w.better(0), 66);
+        due("the piece", w.better(1), 3);
+        due("the cost", w.better(2), 10 * (5 - 1));
+        SkyCuts v = new SkyCuts();
+        v.paint(8, 63, 1);
+        v.paint(64, 127, -1);
+        v.paint(1, 7, -1);
+        v.assign(2, 0);
+        v.assign(1, 0);
+        stream(v, "0d");
+        v.flow(0, 0, 23, 1);
+        due("cell 0", v.better(0), 0);
+        due("to the other one", v.better(1), 1);
         SkyCuts z = new SkyCuts();
         due("one piece", z.better(0), -1);
         illegal("what -1", () -> z.better(-1));
@@ -801,6 +932,24 @@ public final class PromisesTest {
         // Shut cells and pieces make nothing of it.
         x.paint(0, 63, -1);
         heaps(x, 2, 0, 1, 0, 1);
+        SkyCuts y = new SkyCuts();
+        for (int c = 0; c < 4; c++) {
+            y.region(c);
+        }
+        stream(y, "1r");
+        y.flow(0, 0, 0, 5);
+        rules(y, "load cells;");
+        heaps(y, 2, 0, 0, 1, 1);
+        due("over, if it must be", y.parted(2, -2), 10);
+        heaps(y, 3, 0, 1, 1, 2);
+        due("the least over", y.parted(3, -2), 0);
+        x.clear();
+        x.region(64);
+        x.region(0);
+        x.region(65);
+        heaps(x, 1, 0, 0, 0);
+        heaps(x, 3, 0, 1, 2);
+        due("a cell alone", x.parted(3, -1), 1);
         illegal("m 0", () -> x.parted(0, 0));
         illegal("m 4", () -> x.parted(4, 0));
         illegal("what -3", () -> x.parted(1, -3));
@@ -882,6 +1031,11 @@ public final class PromisesTest {
         due("busy from 8 on", x.plan(23, -1), 29);
         due("busy", x.busy(60), 50);
         due("as much is not above", x.plan(23, -1), 28);
+        due("as much is not above, quarter 7", x.plan(23, 7), 0);
+        due("as much is not above, quarter 8", x.plan(23, 8), 1);
+        rules(x, "load ways + pieces - 1;");
+        due("a piece alone is one", x.plan(23, -1), 28);
+        rules(x, "");
         due("busy", x.busy(100000), 60);
         due("busy", x.busy(0), 100000);
         illegal("-1", () -> x.busy(-1));
@@ -1031,6 +1185,7 @@ public final class PromisesTest {
         due("two", x.lacks(2, 0), 8);
         due("three", x.lacks(3, 0), 2);
         due("four", x.lacks(4, 0), 0);
+        due("eight, all changes", x.lacks(8, 23), 0);
         SkyCuts y = new SkyCuts();
         due("no plan", y.lacks(1, 0), -1);
         illegal("n 0", () -> y.lacks(0, 0));
@@ -1042,12 +1197,17 @@ public final class PromisesTest {
     private static void enough() {
         SkyCuts x = twoPairs();
         due("enough", x.enough(0), 4);
+        due("enough", x.enough(23), 4);
         x.ill(0, 0);
         due("one is ill", x.enough(0), 5);
         for (int p = 1; p < 8; p++) {
             x.ill(p, 0);
         }
         due("all are ill", x.enough(0), -1);
+        x.ill(7, 24);
+        x.ill(6, 24);
+        x.hours(0, 24);
+        due("but for the last ones", x.enough(0), 8);
         SkyCuts y = new SkyCuts();
         due("no plan", y.enough(0), -1);
         y.paint(0, 63, -1);
@@ -1116,6 +1276,32 @@ public final class PromisesTest {
         illegal("what 12", () -> x.mends(0, 0, 0, 12));
         mendsOfMany();
         mendsByTheWay();
+        mendsAgain();
+    }
+
+    /** Round by 1, 9, 10, 11, 3, 4: nothing of the old way may be left, also at a later call. */
+    private static void mendsAgain() {
+        SkyCuts x = new SkyCuts();
+        stream(x, "1r3");
+        stream(x, "0r");
+        x.flow(0, 0, 0, 1);
+        x.flow(1, 0, 0, 1);
+        x.storm(2, true);
+        rules(x, "load cross;");
+        x.limit(0, 0);
+        due("it goes down at 1", x.mends(0, 1, 0, 0), 2);
+        x.limit(0, 1);
+        due("it goes down at 1", x.mends(0, 1, 0, 0), 1);
+        x.assign(2, 1);
+        rules(x, "load over;");
+        x.limit(0, 0);
+        due("it does not come to 2", x.mends(0, 1, 0, 0), 1);
+        x.storm(9, true);
+        due("nor if it climbs at 1", x.mends(0, 1, 0, 0), 1);
+        rules(x, "load climb;");
+        due("it climbs", x.mends(0, 1, 0, 0), 2);
+        x.storm(9, false);
+        due("it climbs no more", x.mends(0, 1, 0, 0), 1);
     }
 
     private static void mendsOfMany() {
