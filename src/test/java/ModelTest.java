@@ -534,7 +534,7 @@ public final class ModelTest {
 
     public static void main(String[] args) {
         int from = args.length > 0 ? Integer.parseInt(args[0]) : 1;
-        int to = args.length > 1 ? Integer.parseInt(args[1]) : 150;
+        int to = args.length > 1 ? Integer.parseInt(args[1]) : 200;
         for (int seed = from; seed <= to; seed++) {
             new ModelTest(seed).go(300);
         }

@@ -1276,7 +1276,27 @@ public final class PromisesTest {
         illegal("what 12", () -> x.mends(0, 0, 0, 12));
         mendsOfMany();
         mendsByTheWay();
+        mendsByALongWay();
         mendsAgain();
+    }
+
+    /** A corridor down x 0, up x 2, and down x 4: 24 cells to y 5 there, 25 to y 6. */
+    private static void mendsByALongWay() {
+        for (int y = 5; y <= 6; y++) {
+            SkyCuts x = new SkyCuts();
+            stream(x, "0r4d" + y);
+            x.flow(0, 0, 0, 1);
+            for (int c = 0; c < 64; c++) {
+                x.storm(64 + c, true);
+                if (c % 8 == 1 && c < 56 || c % 8 == 3 && c > 8) {
+                    x.storm(c, true);
+                }
+            }
+            due("a way to y " + y, x.mends(0, 0, 0, -1), y == 5 ? 2 * (24 - 10) : -1);
+            due("held is cheaper", x.mends(0, 1, 0, 0), 2);
+            rules(x, "load pieces * 40;");
+            due("a piece is one", x.mends(0, 1, 0, -1), 15);
+        }
     }
 
     /** Round by 1, 9, 10, 11, 3, 4: nothing of the old way may be left, also at a later call. */
@@ -1345,6 +1365,12 @@ public final class PromisesTest {
         x.assign(2, 1);
         due("it goes by 2", x.mends(0, 0, 0, 0), -1);
         x.assign(2, 0);
+        x.assign(0, 3);
+        x.limit(3, 4);
+        due("it comes to its first cell", x.mends(0, 0, 0, 0), -1);
+        x.limit(3, 5);
+        due("it comes to its first cell", x.mends(0, 0, 0, 0), 1);
+        x.assign(0, 0);
         x.assign(9, -1);
         due("shut cells may be crossed", x.mends(0, 0, 0, 0), 1);
         x.storm(9, true);
