@@ -516,6 +516,7 @@ public final class SkyCuts {
         private static final int GOES = 7;
         private static final int ALONE = 6;
         static final int STEP_KINDS = 5;
+        static final int CLIMBS = 4;
 
         int count;
         final int[] cells = new int[STREAMS * WAY_CELLS];
@@ -674,7 +675,7 @@ public final class SkyCuts {
         }
 
         private void setStep(int stream, int lesser, int go) {
-            int kind = go >= 4 ? 4 : go / 2 * 2 + lesser / LAYER;
+            int kind = go >= 4 ? CLIMBS : go / 2 * 2 + lesser / LAYER;
             steps[stream * STEP_KINDS + kind] |= 1L << (lesser & 63);
         }
 
@@ -800,7 +801,16 @@ public final class SkyCuts {
             return sum;
         }
 
-        boolean comesTo(int stream, int cell) {
+        boolean isVisited(int cell) {
+            for (int s = 0; s < count; s++) {
+                if (comesTo(s, cell)) {
+                    return true;
+                }
+            }
+            return false;
+        }
+
+        private boolean comesTo(int stream, int cell) {
             return (masks[stream * 2 + cell / LAYER] >>> (cell & 63) & 1L) != 0L;
         }
 
@@ -864,23 +874,23 @@ public final class SkyCuts {
         }
 
         private void followSteps(int stream, long lo, long hi) {
-            overs[visitors] = 0;
-            inner[visitors] = 0;
-            int at = stream * Streams.STEP_KINDS;
-            followKind(air.steps[at], lo, lo >>> 1);
-            followKind(air.steps[at + 1], hi, hi >>> 1);
-            followKind(air.steps[at + 2], lo, lo >>> 8);
-            followKind(air.steps[at + 3], hi, hi >>> 8);
-            int flat = inner[visitors];
-            followKind(air.steps[at + 4], lo, hi);
-            climbs[visitors] = inner[visitors] - flat;
-        }
-
-        private void followKind(long steps, long here, long there) {
-            if (steps != 0L) {
-                overs[visitors] += Long.bitCount(steps & (here ^ there));
-                inner[visitors] += Long.bitCount(steps & here & there);
+            int over = 0;
+            int within = 0;
+            int climb = 0;
+            for (int kind = 0; kind < Streams.STEP_KINDS; kind++) {
+                long steps = air.steps[stream * Streams.STEP_KINDS + kind];
+                if (steps != 0L) {
+                    long here = kind == 1 || kind == 3 ? hi : lo;
+                    long there = kind == Streams.CLIMBS ? hi : kind < 2 ? here >>> 1 : here >>> 8;
+                    int both = Long.bitCount(steps & here & there);
+                    over += Long.bitCount(steps & (here ^ there));
+                    within += both;
+                    climb = kind == Streams.CLIMBS ? both : 0;
+                }
             }
+            overs[visitors] = over;
+            inner[visitors] = within;
+            climbs[visitors] = climb;
         }
 
         /** Fills the first four of heard, as if the stream `without` had most 0 (NONE: as it is). */
@@ -976,7 +986,9 @@ public final class SkyCuts {
         private static final int MAX_CLAUSES = 8;
         private static final int MAX_OPEN = 6;
         private static final int MAX_NUMBER = 999;
-        // Codes from 0 on are numbers, -1 to -7 what is heard, and these:
+        // Codes from 0 on are numbers, -1 to -7 what is heard, and the others join these.
+        private static final int CELLS_CODE = -5;
+        private static final int LOW_CODE = -6;
         private static final int NOT = -8;
         private static final int ADD = -9;
         private static final int TAKE = -10;
@@ -997,6 +1009,8 @@ public final class SkyCuts {
         int clauses;
         int loadClause = NONE;
         int joinBits;
+        // Whether the load depends on how many cells a set has, and not on what it hears alone.
+        boolean countsCells;
         int[] draft = new int[MAX_CODES];
         int[] draftEnds = new int[MAX_CLAUSES];
         int draftSize;
@@ -1037,6 +1051,16 @@ public final class SkyCuts {
             clauses = many;
             loadClause = draftLoad;
             joinBits = draftJoins;
+            countsCells = false;
+            if (loadClause != NONE) {
+                for (int i = beginOf(loadClause); i < ends[loadClause]; i++) {
+                    countsCells |= codes[i] == CELLS_CODE || codes[i] == LOW_CODE;
+                }
+            }
+        }
+
+        private int beginOf(int clause) {
+            return clause > 0 ? ends[clause - 1] : 0;
         }
 
         private boolean readClause(int number) {
@@ -1198,8 +1222,8 @@ public final class SkyCuts {
                 : text.says("cross") ? -2
                 : text.says("over") ? -3
                 : text.says("climb") ? -4
-                : text.says("cells") ? -5
-                : text.says("low") ? -6
+                : text.says("cells") ? CELLS_CODE
+                : text.says("low") ? LOW_CODE
                 : text.says("pieces") ? -7
                 : NOTHING;
         }
@@ -1243,7 +1267,7 @@ public final class SkyCuts {
                 return heard[0] + 2 * heard[1] + heard[2];
             }
             int depth = 0;
-            for (int i = clause > 0 ? ends[clause - 1] : 0; i < ends[clause]; i++) {
+            for (int i = beginOf(clause); i < ends[clause]; i++) {
                 int code = codes[i];
                 if (code > NOT) {
                     if (depth < MAX_CODES) {
@@ -1353,20 +1377,28 @@ public final class SkyCuts {
             return same << 1 & NOT_FIRST | same >>> 1 & NOT_LAST | same << 8 | same >>> 8 | other;
         }
 
-        /** Whether cells hang together: from one of them the others are reached. */
+        /** Whether cells hang together: from the first of them all are reached. */
         static boolean hangs(long lo, long hi) {
-            long reachedLo = Long.lowestOneBit(lo);
-            long reachedHi = lo == 0L ? Long.lowestOneBit(hi) : 0L;
+            return reaches(lo, hi, lo, hi);
+        }
+
+        /** Whether all cells of a goal are reached from its first one over cells of a set that it is part of. */
+        private static boolean reaches(long lo, long hi, long goalLo, long goalHi) {
+            long reachedLo = Long.lowestOneBit(goalLo);
+            long reachedHi = goalLo == 0L ? Long.lowestOneBit(goalHi) : 0L;
             for (int i = 0; i < CELLS; i++) {
+                if ((goalLo & ~reachedLo | goalHi & ~reachedHi) == 0L) {
+                    return true;
+                }
                 long moreLo = (reachedLo | beside(reachedLo, reachedHi)) & lo;
                 long moreHi = (reachedHi | beside(reachedHi, moreLo)) & hi;
                 if (moreLo == reachedLo && moreHi == reachedHi) {
-                    return reachedLo == lo && reachedHi == hi;
+                    return false;
                 }
                 reachedLo = moreLo;
                 reachedHi = moreHi;
             }
-            return reachedLo == lo && reachedHi == hi;
+            return false;
         }
 
         int neckAt(int piece, int k) {
@@ -1385,9 +1417,13 @@ public final class SkyCuts {
             return NONE;
         }
 
-        private boolean hangsWithout(int piece, int cell) {
-            long rest = ~(1L << (cell & 63));
-            return cell < LAYER ? hangs(lo[piece] & rest, hi[piece]) : hangs(lo[piece], hi[piece] & rest);
+        /** Whether a piece that is whole stays so without a cell: the cells beside that one must reach each other. */
+        boolean hangsWithout(int piece, int cell) {
+            long bitLo = cell < LAYER ? 1L << cell : 0L;
+            long bitHi = cell < LAYER ? 0L : 1L << (cell & 63);
+            long restLo = lo[piece] & ~bitLo;
+            long restHi = hi[piece] & ~bitHi;
+            return reaches(restLo, restHi, beside(bitLo, bitHi) & restLo, beside(bitHi, bitLo) & restHi);
         }
 
         int countAtEdge(int piece, long meetsLo, long meetsHi) {
@@ -1437,6 +1473,7 @@ public final class SkyCuts {
         final boolean[] present = new boolean[PIECES];
         final int[] peaks = new int[PIECES];
         final int[] kept = new int[PIECES];
+        final boolean[] wholes = new boolean[PIECES];
         int bestCell;
         int bestPiece;
         int bestPrice;
@@ -1449,22 +1486,32 @@ public final class SkyCuts {
 
         /** Whether a piece is whole and never full. */
         boolean stands(int piece) {
-            if (!Parting.hangs(parting.lo[piece], parting.hi[piece])) {
+            if (!isWhole(piece)) {
                 return false;
             }
             ear.listen(parting.lo[piece], parting.hi[piece], 1);
             return ear.findPeak() <= parting.limits[piece];
         }
 
+        private boolean isWhole(int piece) {
+            return Parting.hangs(parting.lo[piece], parting.hi[piece]);
+        }
+
         void measure() {
             for (int p = 0; p < PIECES; p++) {
                 present[p] = parting.hasCells(p);
                 if (present[p]) {
-                    ear.listen(parting.lo[p], parting.hi[p], 1);
-                    peaks[p] = ear.findPeak();
-                    kept[p] = ear.keptCounts();
+                    weigh(p);
                 }
             }
+        }
+
+        /** Takes a piece's peak and kept counts as it is now: whether it is never full. */
+        private boolean weigh(int piece) {
+            ear.listen(parting.lo[piece], parting.hi[piece], 1);
+            peaks[piece] = ear.findPeak();
+            kept[piece] = ear.keptCounts();
+            return peaks[piece] <= parting.limits[piece];
         }
 
         int priceNow() {
@@ -1486,11 +1533,14 @@ public final class SkyCuts {
         /** Finds the best move; false if there is none. */
         boolean seek() {
             measure();
+            for (int p = 0; p < PIECES; p++) {
+                wholes[p] = isWhole(p);
+            }
             bestCell = NONE;
             bestPrice = priceNow();
             for (int cell = 0; cell < CELLS; cell++) {
                 int old = parting.pieceOf[cell];
-                if (old != NONE) {
+                if (old != NONE && mayMatter(cell)) {
                     int others = parting.piecesBeside(cell) & ~(1 << old);
                     if (others != 0) {
                         tryCell(cell, old, others);
@@ -1500,17 +1550,24 @@ public final class SkyCuts {
             return bestCell != NONE;
         }
 
+        /** A cell without streams costs the same everywhere, unless the load counts cells. */
+        private boolean mayMatter(int cell) {
+            return ear.book.countsCells || air.isVisited(cell);
+        }
+
         private void tryCell(int cell, int old, int others) {
+            // To leave a piece that is not whole may make it so; one that is whole stays so with a cell beside it.
+            boolean apart = wholes[old] && !parting.hangsWithout(old, cell);
             int oldPeak = peaks[old];
             int oldKept = kept[old];
             parting.put(cell, NONE);
-            if (parting.hasCells(old) && weigh(old)) {
+            if (!apart && parting.hasCells(old) && (wholes[old] || isWhole(old)) && weigh(old)) {
                 for (int p = 0; p < PIECES; p++) {
                     if ((others >> p & 1) != 0) {
                         int thatPeak = peaks[p];
                         int thatKept = kept[p];
                         parting.put(cell, p);
-                        if (weigh(p)) {
+                        if ((wholes[p] || isWhole(p)) && weigh(p)) {
                             compare(cell, p, priceNow());
                         }
                         peaks[p] = thatPeak;
@@ -1529,17 +1586,6 @@ public final class SkyCuts {
                 bestCell = cell;
                 bestPiece = piece;
             }
-        }
-
-        /** Takes a piece's peak and kept counts as it is now; false if it is not whole, or full. */
-        private boolean weigh(int piece) {
-            if (!Parting.hangs(parting.lo[piece], parting.hi[piece])) {
-                return false;
-            }
-            ear.listen(parting.lo[piece], parting.hi[piece], 1);
-            peaks[piece] = ear.findPeak();
-            kept[piece] = ear.keptCounts();
-            return peaks[piece] <= parting.limits[piece];
         }
     }
 
@@ -2135,6 +2181,8 @@ public final class SkyCuts {
         final int[] works = new int[ROWS];
         final boolean[] backs = new boolean[ROWS];
         int size;
+        // Rows never change, so weights once found stand until there is another row.
+        int fitted;
         final int[] weights = new int[WEIGHTS];
         final int[] trial = new int[WEIGHTS];
         int off;
@@ -2155,6 +2203,10 @@ public final class SkyCuts {
             if (!anyRow()) {
                 return false;
             }
+            if (fitted == size) {
+                return true;
+            }
+            fitted = size;
             Arrays.fill(trial, 0);
             off = Integer.MAX_VALUE;
             boolean more = true;
