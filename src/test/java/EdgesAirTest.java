@@ -43,12 +43,36 @@ public final class EdgesAirTest extends Edges {
                 x.assign(a, 1);
                 for (int b = a + 1; b < 128; b++) {
                     x.assign(b, 1);
-                    int steps = Math.abs(a % 8 - b % 8) + Math.abs(a / 8 % 8 - b / 8 % 8) + b / 64 - a / 64;
-                    due(a + " and " + b, x.whole(1), steps == 1);
+                    due(a + " and " + b, x.whole(1), stepsBetween(a, b) == 1);
                     x.assign(b, -1);
                 }
             }
+            for (int a = 0; a < 128; a++) {
+                for (int b = a + 1; b < 128; b++) {
+                    if (stepsBetween(a, b) == 1) {
+                        threeCells(a, b);
+                    }
+                }
+            }
         });
+    }
+
+    private static int stepsBetween(int a, int b) {
+        return Math.abs(a % 8 - b % 8) + Math.abs(a / 8 % 8 - b / 8 % 8) + Math.abs(a / 64 - b / 64);
+    }
+
+    /** Two that are beside one another, with any third one. */
+    private static void threeCells(int a, int b) {
+        SkyCuts x = shut();
+        put(x, 1, a, b);
+        for (int c = 0; c < 128; c++) {
+            if (c != a && c != b) {
+                x.assign(c, 1);
+                boolean joined = stepsBetween(a, c) == 1 || stepsBetween(b, c) == 1;
+                due(a + ", " + b + " and " + c, x.whole(1), joined);
+                x.assign(c, -1);
+            }
+        }
     }
 
     private static void quarters() {
@@ -123,6 +147,17 @@ public final class EdgesAirTest extends Edges {
                 x.flow(i, 0, 23, i + 1);
                 due("most of " + i, x.most(i, 23), i + 1);
             }
+            due("what all of them cost", x.cost(), 0);
+            x.paint(64, 127, 1);
+            due("no move is better", x.better(0), -1);
+            due("their counts", x.quiet(111), 12 * 24);
+            due("short ones", x.shorts(1), 0);
+            due("the greatest part", x.lead(1, 0, 0, false), 11);
+            due("mends of none", x.mends(0, 0, 0, -1), -1);
+            x.limit(1, 78);
+            x.storm(111, true);
+            due("mends of the 12th", x.mends(0, 1, 0, -1), 15 * 12);
+            due("mend of the 12th", x.mends(0, 1, 0, 11), 2);
             missing("way of the 13th", () -> x.way(12, 0));
             missing("flow of the 13th", () -> x.flow(12, 0, 0, 0));
         });

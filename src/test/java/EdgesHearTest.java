@@ -109,6 +109,28 @@ public final class EdgesHearTest extends Edges {
         }
     }
 
+    /** All 66 couples meet somewhere without going alike: 59 in 27, 3 in 26 and 28, 1 in 19, 20, 35 and 91. */
+    private static void eachTwoOfTwelve() {
+        SkyCuts x = new SkyCuts();
+        String[] ways = {"27r", "27ru", "27l", "27lu", "28l2d", "27d", "27dr", "27u", "27ur", "27c", "27cr", "27"};
+        for (String way : ways) {
+            stream(x, way, 1);
+        }
+        due("cross of all", x.hears(0, 0, 1), 59 + 3 + 3 + 1 + 1 + 1 + 1);
+        int[] cells = {27, 26, 28, 19, 20, 35, 91, 18};
+        int[] want = {59, 3, 3, 1, 1, 1, 1, 0};
+        for (int i = 0; i < cells.length; i++) {
+            x.assign(cells[i], 1);
+            due("cross in " + cells[i], x.hears(1, 0, 1), want[i]);
+            due("at edge in " + cells[i], x.edge(1), want[i] > 0 ? 1 : 0);
+            x.assign(cells[i], 0);
+        }
+        x.limit(0, 12 + 2 * 69 - 1);
+        due("full by one", x.mends(0, 0, 0, -1), -1);
+        x.limit(0, 12 + 2 * 69);
+        due("not full", x.mends(0, 0, 0, -1), 0);
+    }
+
     private static void hearing() {
         says("ways: of those with a CELL in it, together", () -> {
             SkyCuts x = new SkyCuts();
@@ -140,6 +162,7 @@ public final class EdgesHearTest extends Edges {
                 y.assign(1, 1);
                 all(y, 0, 6, 2, 6, 0, 16);
                 all(y, 1, 6, 2, 6, 0, 16);
+                eachTwoOfTwelve();
             });
         says("over: MOST for each step of a WAY between a CELL in it and one that is not", () -> {
             SkyCuts x = new SkyCuts();
@@ -333,6 +356,78 @@ public final class EdgesHearTest extends Edges {
         });
     }
 
+    private static void grammar() {
+        says("E: T { + or - T }. T: U { * or / U }.", () -> {
+            worked("5", 5);
+            worked("2 - 3 - 4", -5);
+            worked("2 - (3 - 4)", 3);
+            worked("2 + 3 * 4", 14);
+            worked("2 * 3 + 4", 10);
+            worked("(2 + 3) * 4", 20);
+            worked("20 / 2 / 5", 2);
+            worked("20 / (10 / 5)", 10);
+            worked("20 / 10 * 5", 10);
+            worked("20 - 6 / 2 - 1", 16);
+            faultyRules("load + 1;", 1, 5);
+            faultyRules("load 1 + ;", 1, 9);
+            faultyRules("load 1 + * 2;", 1, 9);
+            faultyRules("load 1 * - 2;", 1, 9);
+            faultyRules("load 1 / / 2;", 1, 9);
+            faultyRules("load 1 - - 2;", 1, 9);
+            faultyRules("load 1 % 2;", 1, 7);
+        });
+        says("\"least\" or \"most\" \"(\" E \",\" E \")\".", () -> {
+            worked("least(3, 4)", 3);
+            worked("least(4, 3)", 3);
+            worked("least(3, 3)", 3);
+            worked("most(3, 4)", 4);
+            worked("most(4, 3)", 4);
+            worked("most(3, 3)", 3);
+            worked("least(1 + 2, 2 * 3) * most(5, 6 / 2)", 15);
+            faultyRules("load least 3, 4;", 1, 11);
+            faultyRules("load least[3, 4];", 1, 10);
+            faultyRules("load least(3 4);", 1, 13);
+            faultyRules("load least(3);", 1, 12);
+            faultyRules("load least(, 3);", 1, 11);
+            faultyRules("load least(3, );", 1, 14);
+            faultyRules("load least(1 < 2, 3);", 1, 13);
+        });
+        says("C: A { \"or\" A }. A: B { \"and\" B }. B: \"not\" B, \"[\" C \"]\", or E R E; R: <, > or =.", () -> {
+            for (int a = 3; a <= 5; a++) {
+                joined(a + " < 4", a < 4);
+                joined(a + " > 4", a > 4);
+                joined(a + " = 4", a == 4);
+                joined("not " + a + " < 4", a >= 4);
+                joined("not not " + a + " < 4", a < 4);
+            }
+            // All that two tests may be, with and ahead of or, and not ahead of both.
+            for (int bits = 0; bits < 8; bits++) {
+                boolean a = (bits & 1) != 0;
+                boolean b = (bits & 2) != 0;
+                boolean c = (bits & 4) != 0;
+                String one = a ? "1=1" : "1=2";
+                String two = b ? "1=1" : "1=2";
+                String three = c ? "1=1" : "1=2";
+                joined(one + " and " + two, a && b);
+                joined(one + " or " + two, a || b);
+                joined(one + " or " + two + " and " + three, a || b && c);
+                joined(one + " and " + two + " or " + three, a && b || c);
+                joined("[" + one + " or " + two + "] and " + three, (a || b) && c);
+                joined("not " + one + " or " + two, !a || b);
+                joined("not " + one + " and " + two, !a && b);
+                joined("not [" + one + " and " + two + "] or " + three, !(a && b) || c);
+            }
+            faultyRules("join 1 < = 2;", 1, 9);
+            faultyRules("join 1 == 2;", 1, 8);
+            faultyRules("join 1 ! 2;", 1, 7);
+            faultyRules("join [1] = 1;", 1, 7);
+            faultyRules("join not [1 < 2;", 1, 15);
+            faultyRules("join and 1 < 2;", 1, 5);
+            faultyRules("join 1 < 2 not 1 < 2;", 1, 11);
+            faultyRules("join 1 not < 2;", 1, 7);
+        });
+    }
+
     private static void faults() {
         says("FAULTS 1 and 2 (above 999) likewise", () -> {
             faultyRules("load 1 ? 1000", 1, 7);
@@ -409,8 +504,10 @@ public final class EdgesHearTest extends Edges {
         });
         says("how many CLAUSES, or the FAULT less 10 (the RULES stay).", () -> {
             SkyCuts x = new SkyCuts();
-            due("two", rules(x, "load 5; join 2 < 1;"), 2);
+            due("two", rules(x, "load 2 + 3; join 2 < 1;"), 2);
             due("fault 1", rules(x, "load 6; load"), -9);
+            due("the load stays", x.hears(0, 0, 4), 5);
+            due("fault 1", rules(x, "join 1 < 2 or 1 < 2 or 2 > 3; join"), -9);
             due("fault 2", rules(x, "load 6; load 1000;"), -8);
             due("fault 3", rules(x, "load 6; load (((((((1)))))));"), -7);
             due("the clauses stay", x.count(1), 2);
@@ -422,6 +519,25 @@ public final class EdgesHearTest extends Edges {
             due("no load", x.hears(0, 0, 4), 0);
             due("no join", x.pairs(0, 0), 1);
             due("no clauses", x.count(1), 0);
+            nothingIsLeft();
+        });
+        says("The first n bytes of the TAPE (empty then) are the RULES", () -> {
+            SkyCuts x = new SkyCuts();
+            feed(x, "load 5; load 6; load 7;");
+            due("the first 7", x.rules(7), 1);
+            due("the tape", x.count(9), 0);
+            due("the load", x.hears(0, 0, 4), 5);
+            feed(x, "load 5; load 6; load 7;");
+            due("the first 15", x.rules(15), 2);
+            due("the load", x.hears(0, 0, 4), 6);
+            feed(x, "load 5; load 6; load 7;");
+            due("the first none", x.rules(0), 0);
+            due("the tape", x.count(9), 0);
+            due("the load", x.hears(0, 0, 4), 0);
+            feed(x, "load 5; load 6; load 7;");
+            due("a word cut off", x.rules(10), -9);
+            due("its place", x.fault(), 8);
+            due("the tape", x.count(9), 0);
         });
         says("IllegalArgumentException: n is not 0 to the TAPE's bytes (it stays).", () -> {
             SkyCuts x = new SkyCuts();
@@ -442,7 +558,43 @@ public final class EdgesHearTest extends Edges {
             feed(x, "load 77;");
             due("the first 6 alone", x.rules(6), -9);
             due("its place", x.fault(), 6);
+            // A word ends with the text, whatever stands behind it on the tape.
+            feed(x, "load ways;");
+            due("the first 8 alone", x.rules(8), -9);
+            due("its place", x.fault(), 5);
+            feed(x, "load 1; join 1 < 2 and 1 < 2;");
+            due("the first 21 alone", x.rules(21), -9);
+            due("its place", x.fault(), 19);
+            feed(x, " ".repeat(191) + "load ways");
+            due("a word at the tape's end", x.rules(200), -9);
+            due("its place", x.fault(), 200);
+            feed(x, " ".repeat(193) + "load 12");
+            due("a number at the tape's end", x.rules(200), -9);
+            due("its place", x.fault(), 200);
         });
+    }
+
+    /** Of rules that were, and of a text with a fault, nothing is left in those that come behind them. */
+    private static void nothingIsLeft() {
+        SkyCuts x = new SkyCuts();
+        x.paint(64, 127, 1);
+        x.configure(0);
+        rules(x, "join 2 < 1; join 2 < 1;");
+        rules(x, "load 0; join 1 < 2;");
+        due("a load of 0 is no join", x.pairs(0, 0), 1);
+        rules(x, "load 0;");
+        due("a load of 0 is no join", x.pairs(0, 0), 1);
+        rules(x, "load ((((((?");
+        due("none is open still", rules(x, "load ((((((5))))));"), 1);
+        rules(x, "join not [not [not [?");
+        due("none is open still", rules(x, "join not not not not not not 2 < 1;"), 1);
+        due("the join", x.pairs(0, 0), -1);
+        rules(x, "join not 1 < 2;");
+        rules(x, "");
+        rules(x, "load 1 + 2;");
+        due("no not behind it", x.hears(0, 0, 4), 3);
+        rules(x, "load 1;".repeat(8) + "load 1;");
+        due("eight may come again", rules(x, "load 1;".repeat(8)), 8);
     }
 
     private static void values() {
@@ -586,6 +738,7 @@ public final class EdgesHearTest extends Edges {
         painting();
         hearing();
         texts();
+        grammar();
         faults();
         values();
         limits();

@@ -84,6 +84,15 @@ public final class EdgesPartingTest extends Edges {
             necks(z, 1);
             SkyCuts all = new SkyCuts();
             necks(all, 0);
+            // Each cell with two beside it that are not beside each other.
+            for (int cell = 0; cell < 128; cell++) {
+                SkyCuts w = shut();
+                int side = cell % 8 < 7 ? cell + 1 : cell - 1;
+                put(w, 3, cell, side, cell ^ 64);
+                necks(w, 3, cell);
+                w.assign(side ^ 64, 3);
+                necks(w, 3);
+            }
         });
         says("The k-th NECK of a PIECE (rising); NONE (also of one that is not WHOLE).", () -> {
             SkyCuts x = shut();
@@ -143,6 +152,15 @@ public final class EdgesPartingTest extends Edges {
             y.length(2);
             due("twice one cell", y.shorts(0), 1);
             due("two cells", y.shorts(1), 0);
+            // In each cell, with the one above or below it in another piece.
+            for (int cell = 0; cell < 128; cell++) {
+                SkyCuts z = new SkyCuts();
+                stream(z, "" + cell);
+                z.assign(cell, 1);
+                z.length(2);
+                due("in cell " + cell, z.shorts(1), 1);
+                due("not in the others", z.shorts(0), 0);
+            }
         });
         says("(0 to 9; 0 at first). AT EDGE", () -> {
             SkyCuts x = new SkyCuts();
@@ -193,18 +211,9 @@ public final class EdgesPartingTest extends Edges {
             due("a cell counts once", x.edge(0), 1);
         });
         says("with a CELL BESIDE it that is of another PIECE, or SHUT.", () -> {
-            for (int cell : new int[] {27, 91}) {
-                for (int other = 0; other < 128; other++) {
-                    SkyCuts x = new SkyCuts();
-                    stream(x, cell + "r");
-                    stream(x, cell + "l");
-                    int steps = Math.abs(cell % 8 - other % 8) + Math.abs(cell / 8 % 8 - other / 8 % 8)
-                        + Math.abs(cell / 64 - other / 64);
-                    x.assign(other, 3);
-                    due(cell + " by " + other, x.edge(0), steps == 1 ? 1 : 0);
-                    x.assign(other, -1);
-                    due(cell + " by " + other + " shut", x.edge(0), steps == 1 ? 1 : 0);
-                }
+            for (int cell = 0; cell < 128; cell++) {
+                edgeOfCell(cell, 0);
+                edgeOfCell(cell, 64);
             }
             // The end of the air is no edge.
             for (int corner : new int[] {0, 7, 56, 63, 64, 71, 120, 127}) {
@@ -227,6 +236,22 @@ public final class EdgesPartingTest extends Edges {
             x.paint(0, 7, -1);
             due("shut ones are of none", x.edge(0), 0);
         });
+    }
+
+    /** Two streams meet in a cell alone; each cell of a layer in turn is of another piece, or shut. */
+    private static void edgeOfCell(int cell, int layer) {
+        SkyCuts x = new SkyCuts();
+        stream(x, "" + cell);
+        stream(x, cell + (cell % 8 < 7 ? "r" : "l"));
+        for (int other = layer; other < layer + 64; other++) {
+            int steps = Math.abs(cell % 8 - other % 8) + Math.abs(cell / 8 % 8 - other / 8 % 8)
+                + Math.abs(cell / 64 - other / 64);
+            x.assign(other, 3);
+            due(cell + " by " + other, x.edge(0), steps == 1 ? 1 : 0);
+            x.assign(other, -1);
+            due(cell + " by " + other + " shut", x.edge(0), steps == 1 ? 1 : 0);
+            x.assign(other, 0);
+        }
     }
 
     private static void holding() {
@@ -364,6 +389,10 @@ public final class EdgesPartingTest extends Edges {
             put(w, 1, 127);
             w.assign(64, -1);
             best(w, 63, 1, 0);
+            put(w, 1, 126, 125, 124);
+            put(w, -1, 61, 62);
+            best(w, 127, 0, 10);
+            everyDirection();
         });
         says("is GOOD, if the old PIECE keeps a CELL", () -> {
             SkyCuts x = shut();
@@ -414,6 +443,7 @@ public final class EdgesPartingTest extends Edges {
             put(y, 2, 0, 8);
             put(y, 1, 5);
             best(y, 4, 1, 10);
+            threePieces();
         });
         says("of these the first (by the CELL, then by the PIECE).", () -> {
             SkyCuts x = byCells();
@@ -483,6 +513,55 @@ public final class EdgesPartingTest extends Edges {
             z.limit(1, 11);
             none(z);
         }
+    }
+
+    /** A row of four cells whose end lies beside a cell of another piece, in each of the six ways. */
+    private static void everyDirection() {
+        int[][] rows = {{27, 26, 25, 24}, {27, 28, 29, 30}, {27, 19, 11, 3}, {27, 35, 43, 51}, {27, 26, 25, 24},
+            {91, 90, 89, 88}, {64, 65, 66, 67}, {64, 72, 80, 88}};
+        int[] other = {28, 26, 35, 19, 91, 27, 0, 65};
+        for (int i = 0; i < rows.length; i++) {
+            SkyCuts x = byCells();
+            put(x, 2, rows[i]);
+            put(x, 6, other[i]);
+            best(x, rows[i][0], 6, 10);
+        }
+        // The load may count the low cells alone.
+        SkyCuts y = shut();
+        rules(y, "load low;");
+        put(y, 0, 0, 1, 2, 3);
+        put(y, 1, 4);
+        best(y, 3, 1, 10);
+        // A piece alone is one.
+        SkyCuts z = shut();
+        rules(z, "load cells * pieces;");
+        put(z, 0, 0, 1, 2, 3);
+        put(z, 1, 4);
+        z.limit(0, 3);
+        z.limit(1, 2);
+        due("cost", z.cost(), 30);
+        best(z, 3, 1, 10);
+        z.limit(1, 1);
+        none(z);
+    }
+
+    /** Moves between two pieces are weighed with the third one as it is: 24 in 1, 24 between 0 and 1, 48 between 0 and 2. */
+    private static void threePieces() {
+        SkyCuts x = shut();
+        rules(x, "load 0;");
+        put(x, 1, 0, 1);
+        put(x, 0, 2, 3, 4, 5);
+        put(x, 2, 6, 7);
+        stream(x, "0r", 1);
+        stream(x, "1r", 1);
+        stream(x, "5r", 2);
+        due("cost", x.cost(), 72);
+        best(x, 5, 2, 24);
+        due("grow", x.grow(1), 1);
+        best(x, 2, 1, 0);
+        due("grow", x.grow(20), 1);
+        due("cost", x.cost(), 0);
+        none(x);
     }
 
     private static void growing() {

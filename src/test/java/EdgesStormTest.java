@@ -53,6 +53,19 @@ public final class EdgesStormTest extends Edges {
                 x.storm(cell, false);
                 due("by cell " + (64 + cell), x.mends(0, 8, 8, -2), 0);
             }
+            // Each of twelve by a cell of its own, in both layers.
+            SkyCuts many = new SkyCuts();
+            for (int s = 0; s < 12; s++) {
+                stream(many, (s % 2 == 0 ? s : 64 + s) + "d", 1);
+            }
+            for (int s = 0; s < 12; s++) {
+                int cell = s % 2 == 0 ? s : 64 + s;
+                many.storm(cell, true);
+                due("hit in " + cell, many.mends(0, 0, 0, -2), hitBy(cell));
+                due("mends", many.mends(0, 8, 0, -1) >= 15, true);
+                due("mend of " + s, many.mends(0, 8, 0, s), 2);
+                many.storm(cell, false);
+            }
             SkyCuts y = new SkyCuts();
             stream(y, "0");
             storm(y, 0);
@@ -62,6 +75,18 @@ public final class EdgesStormTest extends Edges {
                 due("in quarter " + q, y.mends(q, 0, 0, -2), q >= 9 && q <= 12 ? 1 : 0);
             }
         });
+    }
+
+    /** Streams s from cell s (64 + s, if it is odd) one cell down, by one that they have. */
+    private static int hitBy(int cell) {
+        int bits = 0;
+        for (int s = 0; s < 12; s++) {
+            int first = s % 2 == 0 ? s : 64 + s;
+            if (cell == first || cell == first + 8) {
+                bits |= 1 << s;
+            }
+        }
+        return bits;
     }
 
     /** It goes round by these cells: in any other one it would be heard too much. */
@@ -224,6 +249,29 @@ public final class EdgesStormTest extends Edges {
             due("9 in quarter 1", y.mends(1, 8, 8, -1), -1);
             due("the last one", y.mends(0, 8, 8, 8), 2);
             due("the one without", y.mends(0, 8, 8, 3), 0);
+            // All eight go round.
+            SkyCuts z = new SkyCuts();
+            z.limit(0, 9999);
+            for (int s = 0; s < 8; s++) {
+                stream(z, "0r3", 1);
+            }
+            storm(z, 1);
+            due("all go round", z.mends(0, 8, 8, -1), 8 * 4);
+            for (int s = 0; s < 8; s++) {
+                due("stream " + s, z.mends(0, 8, 8, s), 1);
+            }
+            z.limit(0, 7);
+            due("all but the last", z.mends(0, 8, 8, -1), 7 * 4 + 15);
+            due("the last", z.mends(0, 8, 8, 7), 2);
+            // One that was hit in another quarter is hit there alone.
+            SkyCuts w = struck(2);
+            w.flow(1, 5, 5, 0);
+            due("hit in 4", w.mends(4, 8, 8, 1), 2);
+            due("not hit in 5", w.mends(5, 8, 8, 1), 0);
+            due("minutes in 5", w.mends(5, 8, 8, -1), 15);
+            w.flow(0, 6, 6, 0);
+            due("the other one in 6", w.mends(6, 8, 8, 1), 2);
+            due("not hit in 6", w.mends(6, 8, 8, 0), 0);
         });
         says("such that no PIECE is FULL in that QUARTER (by the WAYS that are then; HELD and REFUSED ones have MOST 0)",
             () -> {
@@ -333,6 +381,49 @@ public final class EdgesStormTest extends Edges {
         x.limit(0, 1);
         due("cross 2 of 1", x.mends(0, 0, 0, 0), -1);
         due("they do not cross still", x.hears(0, 0, 1), 0);
+        x.storm(1, false);
+        x.limit(0, 0);
+        due("they cross no more", x.mends(0, 0, 0, -1), 0);
+        // A piece alone is one.
+        rules(x, "load pieces * 40;");
+        x.limit(0, 40);
+        due("40 of 40", x.mends(0, 0, 0, -1), 0);
+        x.limit(0, 39);
+        due("40 of 39", x.mends(0, 0, 0, -1), -1);
+        climbingOnce();
+    }
+
+    /** Round by the layer above, and then no more: where it climbed it goes down, unlike one that climbs there. */
+    private static void climbingOnce() {
+        SkyCuts x = new SkyCuts();
+        stream(x, "1r2", 1);
+        stream(x, "1c", 1);
+        storm(x, 2, 9);
+        rules(x, "load cross;");
+        // In 1 both climb; in 65 one goes on to the right, and one has climbed there.
+        x.limit(0, 1);
+        due("it climbs at 1", x.mends(0, 0, 0, 0), 1);
+        x.limit(0, 0);
+        due("it does not go alike in 65", x.mends(0, 0, 0, 0), -1);
+        x.storm(9, false);
+        due("it goes down at 1", x.mends(0, 0, 0, 0), -1);
+        x.limit(0, 1);
+        due("it goes down at 1", x.mends(0, 0, 0, 0), 1);
+        // Back from above: 65 by 1 and 2 to 67, with one that goes down there.
+        SkyCuts y = new SkyCuts();
+        stream(y, "65r2", 1);
+        stream(y, "65s", 1);
+        storm(y, 66);
+        rules(y, "load cross;");
+        y.limit(0, 1);
+        due("it goes down at 65", y.mends(0, 0, 0, 0), 1);
+        y.limit(0, 0);
+        due("not alike in 1", y.mends(0, 0, 0, 0), -1);
+        storm(y, 1);
+        y.limit(0, 1);
+        due("the other one is hit", y.mends(0, 1, 0, -2), 3);
+        y.flow(1, 0, 23, 0);
+        due("it is not", y.mends(0, 1, 0, -2), 1);
     }
 
     private static void rows() {
@@ -441,6 +532,17 @@ public final class EdgesStormTest extends Edges {
             z.did(0, 0, 13, true);
             z.did(0, 0, 4, true);
             fits(z, 0, 1, 0, 4, 0, 9);
+            // All of them at once, as much as they may be: 2 ways, 1 cross, 2 over and 1 climb.
+            SkyCuts w = new SkyCuts();
+            stream(w, "0cr", 1);
+            stream(w, "0r", 1);
+            put(w, 1, 65, 1);
+            int[] heard = {2, 1, 2, 1};
+            for (int what = 0; what < 4; what++) {
+                due("heard", w.hears(0, 0, what), heard[what]);
+            }
+            w.did(0, 0, 9999, false);
+            fits(w, 4, 4, 4, 4, 9999 - 24, 0);
         });
         says("OFF BACK: likewise of ROWS KEPT BACK, with those weights.", () -> {
             SkyCuts x = new SkyCuts();

@@ -189,6 +189,12 @@ public final class EdgesWatchTest extends Edges {
                 x.busy(199);
                 due("200 is above, everywhere", x.plan(23, -1), 48);
                 due("200 is above, everywhere", x.plan(23, -2), 0);
+                // Each is a piece alone.
+                rules(x, "load ways * pieces + pieces * 100; join ways < 100;");
+                x.busy(300);
+                due("300 is not above", x.plan(23, -1), 28);
+                x.busy(299);
+                due("300 is above", x.plan(23, -1), 29);
                 sumsWrap();
             });
         says("The sum above which a QUARTER is BUSY (0 to 100,000): what it was.", () -> {
