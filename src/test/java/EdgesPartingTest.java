@@ -272,6 +272,17 @@ public final class EdgesPartingTest extends Edges {
                 due("never full", x.holds(), true);
                 x.flow(0, 0, 0, 42);
                 due("full in the first quarter", x.holds(), false);
+                SkyCuts y = shut();
+                stream(y, "127", 41);
+                put(y, piece, 127);
+                due("full in the high layer", y.holds(), false);
+                put(y, piece, 125);
+                y.limit(piece, 41);
+                due("two apart in the high layer", y.holds(), false);
+                put(y, piece, 126);
+                due("three in the high layer", y.holds(), true);
+                put(y, piece, 0);
+                due("and one in the low layer", y.holds(), false);
             }
         });
     }

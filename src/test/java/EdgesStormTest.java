@@ -330,6 +330,15 @@ public final class EdgesStormTest extends Edges {
             mendsAre(y, 2, 2, 1, 1);
             y.limit(0, 1);
             mendsAre(y, 1, 2, 2, 3);
+            // One goes round, and the one behind it can't.
+            SkyCuts w = new SkyCuts();
+            stream(w, "0r3", 1);
+            stream(w, "1", 1);
+            storm(w, 1);
+            mendsAre(w, 1, 0, 1, 2);
+            mendsAre(w, 0, 1, 1, 3);
+            mendsAre(w, 0, 0, -1, -1);
+            mendsAre(w, 1, 1, 1, 2);
             // Held for 15 it is cheaper than round for 16.
             SkyCuts z = new SkyCuts();
             stream(z, "0r2", 1);
@@ -419,11 +428,10 @@ public final class EdgesStormTest extends Edges {
         due("it goes down at 65", y.mends(0, 0, 0, 0), 1);
         y.limit(0, 0);
         due("not alike in 1", y.mends(0, 0, 0, 0), -1);
-        storm(y, 1);
+        storm(y, 2);
+        due("by 73 it does not go alike in 65", y.mends(0, 0, 0, 0), -1);
         y.limit(0, 1);
-        due("the other one is hit", y.mends(0, 1, 0, -2), 3);
-        y.flow(1, 0, 23, 0);
-        due("it is not", y.mends(0, 1, 0, -2), 1);
+        due("by 73 it does not go alike in 65", y.mends(0, 0, 0, 0), 1);
     }
 
     private static void rows() {

@@ -196,6 +196,8 @@ public final class EdgesWatchTest extends Edges {
                 x.busy(299);
                 due("300 is above", x.plan(23, -1), 29);
                 sumsWrap();
+                inOneLayer(0);
+                inOneLayer(64);
             });
         says("The sum above which a QUARTER is BUSY (0 to 100,000): what it was.", () -> {
             SkyCuts x = layers();
@@ -209,6 +211,22 @@ public final class EdgesWatchTest extends Edges {
             flood(x, 8, 11, 21);
             due("0 is not above 0", x.plan(23, -1), 29);
         });
+    }
+
+    /** Two pieces of one layer, the other one is shut; they can't be together in quarter 9. */
+    private static void inOneLayer(int first) {
+        SkyCuts x = shut();
+        x.paint(first, first + 31, 0);
+        x.paint(first + 32, first + 63, 1);
+        stream(x, "" + first);
+        stream(x, "" + (first + 63));
+        x.configure(0);
+        x.configure(8);
+        flood(x, 9, 9, 25);
+        x.busy(50);
+        due("50 is not above 50", x.plan(23, -1), 25);
+        x.busy(49);
+        due("50 is above 49", x.plan(23, -1), 26);
     }
 
     /** Three times a load of -2^30 is 2^30; two times it is -2^31. */
@@ -313,8 +331,11 @@ public final class EdgesWatchTest extends Edges {
         says("of these the first (QUARTER by QUARTER the least CONFIGURATION). There may be none.", () -> {
             due("without configurations", new SkyCuts().plan(23, -1), -1);
             due("without configurations", new SkyCuts().plan(23, 0), -1);
-            overlap(0100, 010, 15);
-            overlap(010, 0100, 10);
+            overlap(0100, 010, 15, 1000);
+            overlap(010, 0100, 10, 1000);
+            // In quarter 10 there are 35, in 11 to 15 there are 30: it is the first that is not busy.
+            overlap(010, 0100, 11, 34);
+            overlap(010, 0100, 10, 35);
         });
         says("BEST PLAN: what -1 pairs together, -2 CHANGES, or the CONFIGURATION of a QUARTER; NONE: there is none.",
             () -> {
@@ -340,7 +361,7 @@ public final class EdgesWatchTest extends Edges {
     }
 
     /** One can be in quarters 0 to 15 (pieces 0 and 1 together), the other in 10 to 23 (0 and 2): it changes once. */
-    private static void overlap(int first, int second, int last) {
+    private static void overlap(int first, int second, int last, int busy) {
         SkyCuts x = new SkyCuts();
         x.paint(64, 127, 1);
         x.assign(127, 2);
@@ -349,6 +370,8 @@ public final class EdgesWatchTest extends Edges {
         stream(x, "127");
         x.flow(1, 16, 23, 30);
         x.flow(2, 0, 9, 30);
+        x.flow(0, 10, 10, 35);
+        x.busy(busy);
         x.configure(first);
         x.configure(second);
         int early = first == 0100 ? 0 : 1;

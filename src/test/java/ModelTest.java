@@ -6,6 +6,10 @@ import java.util.Random;
  * alike. `java ModelTest from to` runs other seeds.
  */
 public final class ModelTest {
+    // Numbers that wrap, or are within the bounds again, if but some of their bits are looked at.
+    private static final int[] FAR = {Integer.MIN_VALUE, Integer.MAX_VALUE, Integer.MIN_VALUE + 1, 1 << 30, 1 << 16, 256,
+        -256, -128};
+
     private static int wrong = 0;
 
     interface Call {
@@ -48,10 +52,11 @@ public final class ModelTest {
         return w;
     }
 
-    /** Mostly within the bounds, now and then just beside them. */
+    /** Mostly within the bounds, now and then just beside them, or far out. */
     private int pick(int least, int greatest) {
         if (dice.nextInt(40) == 0) {
-            return dice.nextBoolean() ? least - 1 - dice.nextInt(2) : greatest + 1 + dice.nextInt(2);
+            return dice.nextInt(4) == 0 ? FAR[dice.nextInt(FAR.length)]
+                : dice.nextBoolean() ? least - 1 - dice.nextInt(2) : greatest + 1 + dice.nextInt(2);
         }
         return least + dice.nextInt(greatest - least + 1);
     }
